@@ -13,6 +13,7 @@ public final class FormulaSetterTest {
         isFormulaTells();
         formulas();
         noFormulas();
+        charactersThatAreNuclei();
         limitsOfTheGrammar();
         piecesAndPiece();
         widthHeightDepth();
@@ -167,11 +168,12 @@ public final class FormulaSetterTest {
     private static void formulas() {
         String[] all = {
             "", "   ", "a", ".!/|", "+-*=<>()[],;", ")(", "{}", "{ }", "{{}{}}", "a^b", "a _ b", "a^b_c", "a_b^c",
-            "a^{b^c}", "a^bc^d", "a_+", "{a}^{b}_{c}", "\\sum", "\\prod", "\\int", "\\sum\\prod\\int", "\\sum^\\sum_\\int",
-            "\\frac12", "\\frac ab", "\\frac{}{}", "\\frac\\frac1234", "\\frac\\sqrt a b", "\\sqrt2", "\\hat\\bar x",
-            "\\sqrt x^2", "x^\\frac12_3", "\\left(\\right)", "\\left.\\right.", "\\left ) a \\right (", "\\left[a\\right|",
-            "\\left|\\left]b\\right[\\right.^2", "\\left()\\right)", "\\mat{}", "\\mat {a}", "\\mat{a&b\\\\c}", "\\mat{&&\\\\\\\\&}",
-            "\\mat{\\mat{a&b}&c}", "\\mat{\\sum\\\\\\sum}", "\\mat{{a}&\\left(b\\right)}", "a^\\mat{b}", "\\left(\\mat{a}\\right)_c",
+            "a^{b^c}", "a^bc^d", "a_+", "{a}^{b}_{c}", "\\sum", "\\prod", "\\int", "\\sum\\prod\\int",
+            "\\sum^\\sum_\\int", "\\frac12", "\\frac ab", "\\frac{}{}", "\\frac\\frac1234", "\\frac\\sqrt a b",
+            "\\sqrt2", "\\hat\\bar x", "\\sqrt x^2", "x^\\frac12_3", "\\left(\\right)", "\\left.\\right.",
+            "\\left ) a \\right (", "\\left[a\\right|", "\\left|\\left]b\\right[\\right.^2", "\\left()\\right)",
+            "\\mat{}", "\\mat {a}", "\\mat{a&b\\\\c}", "\\mat{&&\\\\\\\\&}", "\\mat{\\mat{a&b}&c}",
+            "\\mat{\\sum\\\\\\sum}", "\\mat{{a}&\\left(b\\right)}", "a^\\mat{b}", "\\left(\\mat{a}\\right)_c",
             "  \\frac  a  {  b  }  ", "\\sum1", "\\left.a\\right.b"
         };
         for (String text : all) {
@@ -181,17 +183,27 @@ public final class FormulaSetterTest {
 
     private static void noFormulas() {
         String[] all = {
-            "^", "_", "^a", "_a", "a^", "a_", "a^^b", "a^b^c", "a_b_c", "a^b_c^d", "a_b^c_d", "a^_b", "{^a}",
-            "{", "}", "{a", "a}", "{{}", "}{", "a^{", "a^}", "\\", "\\ ", "\\ sum", "\\su m", "\\Sum", "\\sumx", "\\su",
-            "\\summ", "\\foo", "\\1", "\\{", "\\right", "\\right)", "a\\right)", "\\frac", "\\frac a", "\\frac a^2 b", "\\frac{a}",
-            "{\\frac a}b", "\\sqrt", "\\sqrt^2", "\\hat", "\\bar}", "{\\bar}", "\\left", "\\left(", "\\left(a", "\\left a\\right)",
-            "\\left(a\\right", "\\left(a\\right a", "\\left(a\\rightx)", "\\lefta(\\right)", "\\left<a\\right>", "\\left{a\\right}",
-            "\\left({a\\right)}", "\\left(a&b\\right)", "\\left(a\\\\b\\right)", "{\\left(a}\\right)", "\\mat", "\\mat a", "\\mat{", "\\mat{a",
-            "\\mat{a&", "\\mat{a\\\\", "\\mat{a\\ \\b}", "\\mat{a\\}", "\\mat{{a&b}}", "\\mat{{a\\\\b}}", "\\mat{a\\right)}",
-            "\\mat{^a}", "\\mat{a&^b}", "&", "a&b", "\\\\", "a\\\\b", "{a&b}", "{\\\\}", "a:b", "#", "\"", "$", "%", "'", "?", "@", "`", "~"
+            "^", "_", "^a", "_a", "a^", "a_", "a^^b", "a^b^c", "a_b_c", "a^b_c^d", "a_b^c_d", "a^_b", "{^a}", "{",
+            "}", "{a", "a}", "{{}", "}{", "a^{", "a^}", "\\", "\\ ", "\\ sum", "\\su m", "\\Sum", "\\sumx", "\\su",
+            "\\summ", "\\foo", "\\1", "\\{", "\\right", "\\right)", "a\\right)", "\\frac", "\\frac a",
+            "\\frac a^2 b", "\\frac{a}", "{\\frac a}b", "\\sqrt", "\\sqrt^2", "\\hat", "\\bar}", "{\\bar}",
+            "\\left", "\\left(", "\\left(a", "\\left a\\right)", "\\left(a\\right", "\\left(a\\right a",
+            "\\left(a\\rightx)", "\\lefta(\\right)", "\\left<a\\right>", "\\left{a\\right}", "\\left({a\\right)}",
+            "\\left(^\\right)", "\\left(a&b\\right)", "\\left(a\\\\b\\right)", "{\\left(a}\\right)", "\\mat",
+            "\\mat a", "\\mat{", "\\mat{a", "\\mat{a&", "\\mat{a\\\\", "\\mat{a\\ \\b}", "\\mat{a\\}",
+            "\\mat{{a&b}}", "\\mat{{a\\\\b}}", "\\mat{a\\right)}", "\\mat{^a}", "\\mat{a^", "\\mat{#",
+            "\\mat{&&&&&&&&", "\\mat{a&^b}", "&", "a&b", "\\\\", "a\\\\b", "{a&b}", "{\\\\}", "a:b", "#", "\"",
+            "$", "%", "'", "?", "@", "`", "~"
         };
         for (String text : all) {
             due("isFormula " + text, typed(text).isFormula(), false);
+        }
+    }
+
+    private static void charactersThatAreNuclei() {
+        String nuclei = "abcdefghijklmnopqrstuvwxyzABCDEFGHIJKLMNOPQRSTUVWXYZ0123456789.!/|+-*=<>()[],;";
+        for (char c = 33; c <= 126; c++) {
+            due("isFormula " + c, typed(String.valueOf(c)).isFormula(), nuclei.indexOf(c) >= 0);
         }
     }
 
@@ -216,7 +228,15 @@ public final class FormulaSetterTest {
         due("a script seven deep", typed("{{{{{{a^b}}}}}}").isFormula(), false);
         due("scripts in groups", typed("a^{b^{c^d}}").isFormula(), true);
         due("scripts in groups, seven deep", typed("a_{b^{c_{d^e}}}").isFormula(), false);
-        due("a fraction's part seven deep", typed("{{{{{{\\frac ab}}}}}}").isFormula(), false);
+        due("a fraction's parts six deep", typed("{{{{{\\frac ab}}}}}").isFormula(), true);
+        due("a fraction's parts seven deep", typed("{{{{{{\\frac ab}}}}}}").isFormula(), false);
+        due("in a fraction's first part six deep", typed("{{{{\\frac{a}b}}}}").isFormula(), true);
+        due("in a fraction's first part seven deep", typed("{{{{{\\frac{a}b}}}}}").isFormula(), false);
+        due("in a fraction's second part seven deep", typed("{{{{{\\frac a{b}}}}}}").isFormula(), false);
+        due("160 characters, the last one a \\", typed(" ".repeat(159) + "\\").isFormula(), false);
+        due("160 characters, the last ones \\\\", typed("\\mat{" + " ".repeat(153) + "\\\\").isFormula(), false);
+        due("160 characters, the last one }", typed("\\mat{" + " ".repeat(154) + "}").isFormula(), true);
+        due("160 characters, the last ones a command", typed(" ".repeat(156) + "\\sum").isFormula(), true);
         due("between sides six deep", typed("{{{{{\\left(a\\right)}}}}}").isFormula(), true);
         due("between sides seven deep", typed("{{{{{{\\left(a\\right)}}}}}}").isFormula(), false);
         due("a cell six deep", typed("{{{{{\\mat{a}}}}}}").isFormula(), true);
@@ -347,8 +367,10 @@ public final class FormulaSetterTest {
         for (int left : beforeBin) {
             for (int right : behindBin) {
                 String all = items[left] + "+" + items[right];
-                due("spaces in " + all + ", 0", widthOf(all, 0), widthOf(items[left], 0) + 13 + 70 + 13 + widthOf(items[right], 0));
-                due("spaces in " + all + ", 2", widthOf(all, 2), widthOf(items[left], 2) + 49 + widthOf(items[right], 2));
+                int largeSum = widthOf(items[left], 0) + 13 + 70 + 13 + widthOf(items[right], 0);
+                int smallSum = widthOf(items[left], 2) + 49 + widthOf(items[right], 2);
+                due("spaces in " + all + ", 0", widthOf(all, 0), largeSum);
+                due("spaces in " + all + ", 2", widthOf(all, 2), smallSum);
             }
         }
     }
@@ -393,6 +415,14 @@ public final class FormulaSetterTest {
         looks("{x^2}^3", 0, "0 120 0 0 10 40; 0 50 40 40 7 28; 0 51 73 69 7 35", 113, 104, 0);
         looks("\\left(x\\right)^2", 0,
                 "2 40 0 -15 80 40; 0 120 40 0 10 40; 2 41 80 -15 80 40; 0 50 120 45 7 28", 153, 94, 15);
+        looks("a^{x^b}", 0, "0 97 0 0 10 60; 0 120 60 40 7 28; 0 98 88 68 5 35", 131, 103, 20);
+        looks("a_{x^b}", 0, "0 97 0 0 10 60; 0 120 60 -25 7 28; 0 98 88 -4 5 35", 131, 60, 25);
+        looks("\\sqrt{{}^a}", 0, "2 35 0 -10 100 50; 1 0 50 86 4 47; 0 97 50 30 7 42", 97, 90, 10);
+        looks("\\sqrt{a^{x^b}}", 0,
+                "2 35 0 -26 140 50; 1 0 50 110 4 131; 0 97 50 0 10 60; 0 120 110 40 7 28; "
+                + "0 98 138 61 5 35", 181, 114, 26);
+        looks("x^\\frac1i", 0, "0 120 0 0 10 40; 0 49 43 80 5 40; 1 0 40 64 3 46; 0 105 53 20 5 20", 91, 110, 0);
+        looks("{}_{\\left(a\\right)}", 0, "2 40 0 -38 70 28; 0 97 28 -20 7 42; 2 41 70 -38 70 28", 103, 0, 38);
     }
 
     private static void scriptsOfInt() {
@@ -451,6 +481,8 @@ public final class FormulaSetterTest {
                 "2 35 0 -92 240 50; 1 0 50 144 4 88; 0 49 54 70 10 80; 1 0 50 23 4 88; "
                 + "0 49 54 -70 10 80", 138, 148, 92);
         looks("\\sqrt b", 1, "2 35 0 -18 100 50; 1 0 50 78 4 70; 0 98 50 0 10 70", 120, 82, 18);
+        looks("\\sqrt i", 3, "2 35 0 -19 50 25; 1 0 25 29 2 20; 0 105 25 0 5 20", 45, 31, 19);
+        looks("\\sqrt{\\bar x}", 3, "2 35 0 -3 40 25; 1 0 25 35 2 20; 0 120 25 0 5 20; 1 0 25 27 2 20", 45, 37, 3);
     }
 
     private static void hats() {
@@ -508,6 +540,17 @@ public final class FormulaSetterTest {
         looks("\\mat{\\frac ab\\\\\\frac ab}", 2,
                 "0 97 5 80 5 30; 1 0 0 64 3 41; 0 98 3 20 5 35; 0 97 5 -17 5 30; 1 0 0 -33 3 41; "
                 + "0 98 3 -77 5 35", 41, 110, 77);
+        StringBuilder steps = new StringBuilder("\\mat{x");
+        for (int i = 1; i < 8; i++) {
+            steps.append("\\\\").append("&".repeat(i)).append("x");
+        }
+        FormulaSetter f = typed(steps + "}");
+        due("8 rows of up to 8 cells", set(f, 0), 8);
+        due("columns of 40 and 40 between", facts(f, 2), "0 80 160 240 320 400 480 560");
+        due("rows of 70 and 10 between", facts(f, 3), "290 210 130 50 -30 -110 -190 -270");
+        due("8 columns", f.width(), 600);
+        due("8 rows: height", f.height(), 340);
+        due("8 rows: depth", f.depth(), 290);
     }
 
     private static void orderOfPieces() {

@@ -96,7 +96,7 @@ public final class FormulaSetterWildRunsTest {
         return 1;
     }
 
-    /** A number for all that can be seen of what is set. */
+    /** A number for all that can be seen of what is set. Its calls change nothing, so none is counted. */
     private long trace() {
         long all = f.pieces() * 31L + f.width() * 37L + f.height() * 41L + f.depth();
         for (int i = 0; i < f.pieces(); i++) {
