@@ -1,8 +1,5 @@
 /** The promises of the document, one method or more for each. */
-public final class FormulaSetterTest {
-    private static int passed = 0;
-    private static int failed = 0;
-
+public final class FormulaSetterTest extends Checks {
     public static void main(String[] args) {
         aNewObject();
         typeAppends();
@@ -32,10 +29,7 @@ public final class FormulaSetterTest {
         matrices();
         orderOfPieces();
         objectsAreApart();
-        System.out.println(passed + " passed, " + failed + " failed");
-        if (failed != 0) {
-            System.exit(1);
-        }
+        tell();
     }
 
     // Promise 1
@@ -570,91 +564,7 @@ public final class FormulaSetterTest {
         due("other", look(other), "2 35 0 -22 100 50; 1 0 50 74 4 60; 0 97 50 0 10 60 | 110 78 22");
     }
 
-    // Help
-
-    private static final int ILLEGAL_ARGUMENT = -77770001;
-    private static final int OUT_OF_BOUNDS = -77770002;
-
-    private static FormulaSetter typed(String text) {
-        FormulaSetter f = new FormulaSetter();
-        for (int i = 0; i < text.length(); i++) {
-            if (f.type(text.charAt(i), 1) != i + 1) {
-                throw new IllegalStateException("the test's own text cannot be typed: " + text);
-            }
-        }
-        return f;
-    }
-
-    private static int set(FormulaSetter f, int style) {
-        try {
-            return f.set(style);
-        } catch (IllegalArgumentException e) {
-            return ILLEGAL_ARGUMENT;
-        }
-    }
-
-    private static int piece(FormulaSetter f, int i, int what) {
-        try {
-            return f.piece(i, what);
-        } catch (IndexOutOfBoundsException e) {
-            return OUT_OF_BOUNDS;
-        }
-    }
-
-    private static int widthOf(String text, int style) {
-        FormulaSetter f = typed(text);
-        f.set(style);
-        return f.width();
-    }
-
     private static int spaceIn(String both, String left, String right, int style) {
         return widthOf(both, style) - widthOf(left, style) - widthOf(right, style);
-    }
-
-    /** One fact of all pieces. */
-    private static String facts(FormulaSetter f, int what) {
-        StringBuilder all = new StringBuilder();
-        for (int i = 0; i < f.pieces(); i++) {
-            all.append(i == 0 ? "" : " ").append(f.piece(i, what));
-        }
-        return all.toString();
-    }
-
-    private static String codes(FormulaSetter f) {
-        return facts(f, 1);
-    }
-
-    /** All that can be seen of what is set. */
-    private static String look(FormulaSetter f) {
-        StringBuilder all = new StringBuilder();
-        for (int i = 0; i < f.pieces(); i++) {
-            all.append(i == 0 ? "" : "; ");
-            for (int what = 0; what < 6; what++) {
-                all.append(what == 0 ? "" : " ").append(f.piece(i, what));
-            }
-        }
-        return all + " | " + f.width() + " " + f.height() + " " + f.depth();
-    }
-
-    private static void looks(String text, int style, String pieces, int width, int height, int depth) {
-        FormulaSetter f = typed(text);
-        int count = pieces.isEmpty() ? 0 : pieces.split(";").length;
-        due("set " + text + " in " + style, set(f, style), count);
-        due("look of " + text + " in " + style, look(f), pieces + " | " + width + " " + height + " " + depth);
-    }
-
-    private static void starts(String text, int style, String want) {
-        FormulaSetter f = typed(text);
-        f.set(style);
-        due("places in " + text, facts(f, 2), want);
-    }
-
-    private static void due(String what, Object got, Object want) {
-        if (got.equals(want)) {
-            passed++;
-        } else {
-            failed++;
-            System.out.println(what + ": answered " + got + ", due is " + want);
-        }
     }
 }
