@@ -3,6 +3,8 @@ abstract class Checks {
     /** Stand for the exceptions of set and piece; no call answers them. */
     static final int ILLEGAL_ARGUMENT = -77770001;
     static final int OUT_OF_BOUNDS = -77770002;
+    /** An array's or a text's own exception is one of the document's kind, but was thrown by no throw statement. */
+    private static final int ANOTHER_EXCEPTION = -77770003;
 
     private static int passed = 0;
     private static int failed = 0;
@@ -38,7 +40,7 @@ abstract class Checks {
         try {
             return f.set(style);
         } catch (IllegalArgumentException e) {
-            return ILLEGAL_ARGUMENT;
+            return e.getClass() == IllegalArgumentException.class ? ILLEGAL_ARGUMENT : ANOTHER_EXCEPTION;
         }
     }
 
@@ -46,7 +48,7 @@ abstract class Checks {
         try {
             return f.piece(i, what);
         } catch (IndexOutOfBoundsException e) {
-            return OUT_OF_BOUNDS;
+            return e.getClass() == IndexOutOfBoundsException.class ? OUT_OF_BOUNDS : ANOTHER_EXCEPTION;
         }
     }
 

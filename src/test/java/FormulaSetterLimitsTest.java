@@ -28,6 +28,7 @@ public final class FormulaSetterLimitsTest extends Checks {
         pieceTakesFactsZeroToFive();
         piecesOfNothingAndOfMany();
         measuresStayUntilTheNextSet();
+        setInPlaceOfWhatWasSet();
         fiveHundredTwelveCalls();
 
         blanksBetweenAllSigns();
@@ -42,6 +43,7 @@ public final class FormulaSetterLimitsTest extends Checks {
         sixtyNuclei();
         eightRows();
         eightCells();
+        matricesStandInBraces();
         limitsOfEachMatrixByItself();
         sixDeep();
         emptyPartsLieNoDeeper();
@@ -255,10 +257,7 @@ public final class FormulaSetterLimitsTest extends Checks {
             FormulaSetter f = typed("x^2_3");
             set(f, 0);
             String before = look(f);
-            f.wipe();
-            for (int i = 0; i < text.length(); i++) {
-                f.type(text.charAt(i), 1);
-            }
+            retype(f, text);
             boolean first = f.isFormula();
             due("isFormula twice: " + text, f.isFormula(), first);
             due("isFormula as set tells: " + text, first, set(typed(text), 0) != ILLEGAL_ARGUMENT);
@@ -338,22 +337,42 @@ public final class FormulaSetterLimitsTest extends Checks {
         due("those of an empty text", look(f), " | 0 0 0");
     }
 
+    // "in place of what was set": nothing of it is left, whatever it was
+    private static void setInPlaceOfWhatWasSet() {
+        String[] texts = {
+            "", "a", "a+b", "+", "x^2_3", "\\sum^n_i", "\\frac ab", "\\sqrt{\\hat b}", "\\bar{ab}", "\\left(\\frac ab\\right]", "\\left.\\right.",
+            "\\mat{}", "\\mat{a&bb&c\\\\d\\\\\\frac ab}", "\\mat{a}", "\\mat{\\mat{a\\\\b&c}}", "{{{{{{a}}}}}}", "a".repeat(60), "^", "{", "\\mat{a&"
+        };
+        for (String first : texts) {
+            FormulaSetter f = typed(first);
+            for (String second : texts) {
+                retype(f, first);
+                set(f, 0);
+                String before = look(f);
+                retype(f, second);
+                FormulaSetter fresh = typed(second);
+                for (int style = 1; style >= 0; style--) {
+                    int count = set(fresh, style);
+                    due("set " + second + " behind " + first, set(f, style), count);
+                    due("look of " + second + " behind " + first, look(f), count == ILLEGAL_ARGUMENT ? before : look(fresh));
+                }
+            }
+        }
+    }
+
     // "An object is used for at most 512 calls after it has been made"
     private static void fiveHundredTwelveCalls() {
         FormulaSetter f = new FormulaSetter();
         int calls = 0;
         String text = "\\sum_{i=1}^n\\frac{a_i}{\\sqrt{b}}+\\mat{a&b\\\\c}";
         while (calls + text.length() + 3 < 512) {
-            f.wipe();
-            for (int i = 0; i < text.length(); i++) {
-                f.type(text.charAt(i), 1);
-            }
+            retype(f, text);
             due("isFormula behind " + calls + " calls", f.isFormula(), true);
             due("set behind " + calls + " calls", set(f, 0), 15);
             calls += text.length() + 3;
         }
         while (calls < 511) {
-            f.width();
+            due("isFormula behind " + calls + " calls", f.isFormula(), true);
             calls++;
         }
         FormulaSetter fresh = typed(text);
@@ -557,6 +576,7 @@ public final class FormulaSetterLimitsTest extends Checks {
             due(rows + " empty rows", typed(empty).isFormula(), rows <= 8);
             due(rows + " rows", set(typed(full), 0), rows <= 8 ? rows : ILLEGAL_ARGUMENT);
         }
+        due("a ninth row in what another brace would close", typed("{\\mat{" + "\\\\".repeat(8) + "}").isFormula(), false);
         due("a row end behind the eighth row", typed("\\mat{" + "a\\\\".repeat(8) + "}").isFormula(), false);
     }
 
@@ -570,6 +590,22 @@ public final class FormulaSetterLimitsTest extends Checks {
             due(cells + " cells in the second row", typed("\\mat{a\\\\" + row + "}").isFormula(), cells <= 8);
             due(cells + " cells in the first of two", typed("\\mat{" + row + "\\\\a}").isFormula(), cells <= 8);
             due(cells + " cells in the eighth row", typed("\\mat{" + "\\\\".repeat(7) + row + "}").isFormula(), cells <= 8);
+        }
+    }
+
+    // "\mat { ROW [\\ ROW]* }, where ROW: CELL [& CELL]*"
+    private static void matricesStandInBraces() {
+        String[] wrong = {
+            "\\mat", "\\mat a", "\\mat}", "\\mat{", "\\mat{a", "\\mat{a&", "\\mat{a\\\\", "\\mat{a\\", "\\mat{a\\}", "\\mat{a\\\\\\}",
+            "\\mat{a\\right)}", "\\left(\\mat{a\\right)", "\\mat(a)", "\\mat{}}", "\\mat{{}", "&", "\\\\", "{&}", "{\\\\}", "\\left(&\\right)",
+            "\\mat{{&}}", "\\mat{{\\\\}}", "\\mat{\\left.&\\right.}", "{\\mat{" + "&".repeat(8) + "}"
+        };
+        for (String text : wrong) {
+            due(text, typed(text).isFormula(), false);
+        }
+        String[] right = {"\\mat{}", "\\mat{&}", "\\mat{\\\\}", "\\mat{\\\\&}", "\\mat{{}&{}}", "\\mat{\\mat{&}&}", "\\mat{a}b", "\\mat{\\left.a\\right.&}"};
+        for (String text : right) {
+            due(text, typed(text).isFormula(), true);
         }
     }
 
@@ -625,6 +661,13 @@ public final class FormulaSetterLimitsTest extends Checks {
             due("seven deep: " + text, typed("{".repeat(7) + text + "}".repeat(7)).isFormula(), false);
             due("an ARG six deep: " + text, typed("{".repeat(5) + "a^" + text + "}".repeat(5)).isFormula(), true);
             due("an ARG seven deep: " + text, typed("{".repeat(6) + "a^" + text + "}".repeat(6)).isFormula(), false);
+        }
+    }
+
+    private static void retype(FormulaSetter f, String text) {
+        f.wipe();
+        for (int i = 0; i < text.length(); i++) {
+            f.type(text.charAt(i), 1);
         }
     }
 

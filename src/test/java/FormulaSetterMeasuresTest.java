@@ -55,6 +55,7 @@ public final class FormulaSetterMeasuresTest extends Checks {
         deepestOfARow();
         gapsOfMatrices();
         rowsOfFewerCells();
+        matricesBesideAndInOthers();
         tell();
     }
 
@@ -657,6 +658,18 @@ public final class FormulaSetterMeasuresTest extends Checks {
         due("the widest of a column is in another row", widthOf("\\mat{a&b\\\\c}", 1), 80 + 40 + 70);
         due("a column that only the second row has", widthOf("\\mat{a\\\\b&c}", 1), 70 + 40 + 80);
         due("columns that are empty in all rows", widthOf("\\mat{a&&\\\\b}", 1), 70 + 80);
+    }
+
+    // The measures of a matrix are its own: 1 row beside 3, 1 column beside 3.
+    private static void matricesBesideAndInOthers() {
+        measures("3 rows, then 1", "\\mat{\\\\\\\\}\\mat{}", 1, 10, 25 + 115, 230 - 140);
+        at("\\mat{\\\\\\\\}\\mat{x}", 1, 0, Y, 10);
+        starts("\\mat{&&}\\mat{x}", 1, "90");
+        measures("3 columns, then 1", "\\mat{a&b&c}\\mat{}", 1, 60 + 40 + 70 + 40 + 80 + 10, 70, 20);
+        // Within the cell the inner matrix is 230 high, 140 of it above its base line, and the row 140 and 90.
+        measures("3 rows in 1", "\\mat{\\mat{\\\\\\\\}}", 1, 0, 140, 90);
+        measures("3 columns in 1", "\\mat{\\mat{&&}}", 1, 80, 25 + 40, 80 - 65);
+        measures("1 in the first of 3 columns", "\\mat{\\mat{a}&&}", 1, 60 + 80, 25 + 42, 85 - 67);
     }
 
     // Help

@@ -75,6 +75,7 @@ public final class FormulaSetterWildRunsTest {
         try {
             count = f.set(style);
         } catch (IllegalArgumentException e) {
+            need(e.getClass() == IllegalArgumentException.class, "set threw " + e);
             set = false;
         }
         need(set == (formula && style >= 0 && style <= 3), "set and isFormula do not agree");
@@ -90,6 +91,7 @@ public final class FormulaSetterWildRunsTest {
         try {
             f.piece(i, what);
         } catch (IndexOutOfBoundsException e) {
+            need(e.getClass() == IndexOutOfBoundsException.class, "piece threw " + e);
             answered = false;
         }
         need(answered == (i >= 0 && i < f.pieces() && what >= 0 && what <= 5), "piece(" + i + ", " + what + ")");
