@@ -161,19 +161,19 @@ public final class FormulaSetter {
         }
 
         int spaceBetween(Atom left, Atom right) {
-            char rule = left.spaces.charAt(right.column);
-            if (rule == '1') {
+            int rule = left.spaces.charAt(right.column) - '0';
+            if (rule == 1) {
                 return size;
             }
             if (!isLarge()) {
                 return 0;
             }
             switch (rule) {
-                case '2':
+                case 2:
                     return 4 * size / 3;
-                case '3':
+                case 3:
                     return 5 * size / 3;
-                case '4':
+                case 4:
                     return size;
                 default:
                     return 0;
@@ -512,7 +512,8 @@ public final class FormulaSetter {
                 }
                 if (take('&')) {
                     column++;
-                } else if (takeRowEnd()) {
+                } else if (seesRowEnd()) {
+                    at += 2;
                     row++;
                     column = 0;
                 } else {
@@ -566,14 +567,6 @@ public final class FormulaSetter {
             }
             at++;
             return c;
-        }
-
-        private boolean takeRowEnd() {
-            if (!seesRowEnd()) {
-                return false;
-            }
-            at += 2;
-            return true;
         }
 
         private boolean seesRowEnd() {
